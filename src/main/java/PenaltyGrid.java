@@ -915,7 +915,6 @@ public final class PenaltyGrid {
             next = 0;
             lines = 0;
             codes = 0;
-            Arrays.fill(numbers, 0);
             for (int i = 0; i < MOST_LINES; i++) {
                 if (token() == THE_END) return true;
                 if (!readLine()) return false;

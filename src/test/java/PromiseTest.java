@@ -220,6 +220,14 @@ public final class PromiseTest {
         fault("graves 0 1;", 0);
         fault("grav", 0);
         fault("Grave 0 1;", 0);
+        fault("oldz 1;", 0);
+        fault("olda 1;", 0);
+        fault("zold 1;", 0);
+        fault("old1z;", 4);
+        fault("old {1;", 4);
+        fault("old `;", 4);
+        fault("old /1;", 4);
+        fault("old :;", 4);
         fault(";", 0);
         fault("7;", 0);
         fault(" \t", 1);
@@ -271,6 +279,8 @@ public final class PromiseTest {
         fault("back 1;", 5);
         fault("back if young;", 5);
         fault("up 1 if (((((young)))));", 12);
+        fault("down 1 if (((((young)))));", 14);
+        fault("beside if (((((young)))));", 14);
         fault("up 1 if not (not (not (not (not (young)))));", 32);
         fault("up 1 if ((((young)))) and ((((hurt and (gave)))));", 39);
         fault("old 1;old 1;old 1;old 1;old 1;old 1;old 1;old 1;old 1;old 1;old 1;old 1; old", 73);
@@ -279,7 +289,17 @@ public final class PromiseTest {
         fault("up 1 if young" + (char) 0xe1 + ";", 13);
         due("no version by faults", g.many(4), 0);
         due("four open beside one another", read("up 1 if ((((young)))) and ((((hurt))));"), 0);
-        due("twelve lines", read("old 1;old 1;old 1;old 1;old 1;old 1;old 1;old 1;old 1;old 1;old 1;old 1; "), 1);
+        due("four open behind down and beside", read("down 0 if ((((1<2)))); beside if ((((young))));grave 0 0;points 0 0;"), 1);
+        due("twelve lines", read("old 1;old 1;old 1;old 1;old 1;old 1;old 1;old 1;old 1;old 1;old 1;old 1; "), 2);
+        StringBuilder long250 = new StringBuilder("up 1 if 1");
+        while (long250.length() < 246) long250.append("+1");
+        due("a text of 250 bytes", read(long250 + "=1;"), 3);
+        fault(long250 + "=1", 249);
+        fault(long250 + "+1", 249);
+        fault(long250 + "+1+", 250);
+        long250.setLength(0);
+        while (long250.length() < 244) long250.append("not ");
+        fault("up 1 if " + long250.substring(0, 240), 248);
         return 0;
     }
 
@@ -321,6 +341,15 @@ public final class PromiseTest {
         due("many ors", holds("hurt or gave or hurt or weapon"), 1);
         due("many ands", holds("weapon and young and pleaded and hurt"), 0);
         due("deep", holds("1=2 or 1=1 and (1=2 or 1=1 and (1=2 or 1=1 and (1=2 or 1=1 and (1=2 or 1=1 and 1+1<1+1+kind))))"), 11);
+        begin();
+        g.person(18, 0);
+        g.person(17, 359);
+        g.days(1);
+        g.deed(1, 0, 0);
+        g.deed(2, 0, 0);
+        g.deed(2, 0, 1);
+        read("up 1 if young;");
+        for (int i = 0; i < 3; i++) due("young below 18 alone", g.grave(i, 0, 0), i == 1 ? 1 : 0);
         return 0;
     }
 
@@ -815,6 +844,15 @@ public final class PromiseTest {
         g.prove(0);
         g.finding(1, 1, false);
         due("found otherwise", g.judge(), 2);
+        begin();
+        for (int i = 0; i < 3; i++) {
+            g.deed(0, 0, 0);
+            g.term(i, 0, 0, 0);
+        }
+        g.prove(0);
+        judged("the same again, else right", 1, 0, 0, 2);
+        judged("falls, else right", 2, 0, 0, 3);
+        judged("one is left out: falls behind it", 1, 0, 2, 3);
         return 0;
     }
 
@@ -855,6 +893,15 @@ public final class PromiseTest {
         due("one is left, n", g.spread(1, 1, 0), 1);
         due("all but one are of it", g.spread(4, 1, 2), STATE);
         due("as it was known", g.spread(1, 0, 2), 1000000 + 31);
+        begin();
+        for (int i = 0; i < 4; i++) {
+            g.deed(0, 0, 0);
+            g.term(i, i / 2, 4 - i, 1);
+        }
+        due("two and two: told", g.spread(0, 0, 2), 1000000 + 7 * 2 - 3 * 2);
+        due("two and two: above", g.spread(0, 0, 3), 1);
+        due("two and two: above of the other", g.spread(1, 0, 3), 6);
+        due("two and two: below", g.spread(1, 0, 4), 6);
         begin();
         for (int i = 0; i < 16; i++) {
             g.deed(0, 0, 0);
@@ -1196,6 +1243,7 @@ public final class PromiseTest {
         acts("finding", 0, 0, 10, 21, 10);
         acts("finding", 0, 1, 10, 9, 11, 10);
         acts("finding", 0, 2, 31, 3, 40, 12);
+        acts("finding", 0, 2, 30, 2, 40, 12);
         acts("finding", 0, 2, MAX, (MAX + 2) / 11, 40, 12);
         acts("finding", 0, 3, 10, (9 ^ 12) * 5, 41, 13, 11, 10);
         g.shelf(0, 1, 0);
