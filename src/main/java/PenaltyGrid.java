@@ -441,16 +441,16 @@ public final class PenaltyGrid {
 
     public int item(int sheet, int sort, int i) {
         if (!isSheet(sheet) || !isSort(sort)) return BAD;
-        int missing = amissAs(sheet, sort);
-        if (missing != 0) return missing;
+        int refusal = refusalAs(sheet, sort);
+        if (refusal != 0) return refusal;
         if (i < 0 || i >= sheetSize[sheet]) return OUTSIDE;
         return sheetItems[sheet][i];
     }
 
     public int comes(int deed, int sheet, int i, int n) {
         if (!docket.isDeed(deed) || !isSheet(sheet) || n < 0 || n > MOST_COMING) return BAD;
-        int missing = amissAs(sheet, SHORTS);
-        if (missing != 0) return missing;
+        int refusal = refusalAs(sheet, SHORTS);
+        if (refusal != 0) return refusal;
         int came = 0;
         for (int at = 0; at < n; at++) {
             int place = i + at;
@@ -547,7 +547,7 @@ public final class PenaltyGrid {
     }
 
     /** 0 if a sheet can be taken for a sort, else why it can't. */
-    private int amissAs(int sheet, int sort) {
+    private int refusalAs(int sheet, int sort) {
         if (sheetSort[sheet] == MISSING) return NOTHING;
         return sheetSort[sheet] == sort ? 0 : OTHER_SORT;
     }
