@@ -2,8 +2,9 @@ import java.util.Random;
 
 /** Long runs of calls, each asked of the class and of the model; the seeds are fixed, so the runs are always the same. */
 public final class ModelTest {
-    private static final int RUNS = 6000;
-    private static final int CALLS = 512;
+    private static final int RUNS = 8000;
+    /** What later calls of an object answer is free. */
+    private static final int MOST_CALLS = 512;
     private static final int[] EDGES = {Integer.MIN_VALUE, Integer.MAX_VALUE, -1, 16, 10000, -10, 41, 1 << 16, -2};
     private static final String[] LINES = {
         "grave 0 %d;", "grave 1 %d;", "grave 2 %d;", "points 0 %d;", "points 1 %d;", "points 2 %d;", "points 3 %d;", "old %d;", "range %g %o %d to 24%z;",
@@ -19,18 +20,25 @@ public final class ModelTest {
     private static Random random;
     private static PenaltyGrid grid;
     private static GridModel model;
+    private static int calls;
 
     public static void main(String[] args) {
         for (int run = 0; run < RUNS; run++) {
             random = new Random(run);
             grid = new PenaltyGrid();
             model = new GridModel();
+            calls = 0;
             int quiet = random.nextInt(3);
-            for (int call = 0; call < CALLS; call++) {
+            for (int call = 0; call < MOST_CALLS && isMore(); call++) {
                 if (!call(run, call, quiet)) break;
             }
         }
         Check.end();
+    }
+
+    /** Whether one more call is promised. */
+    private static boolean isMore() {
+        return calls < MOST_CALLS;
     }
 
     private static int upTo(int most) {
@@ -105,6 +113,7 @@ public final class ModelTest {
     }
 
     private static boolean same(int run, int call, String what, int got, int want) {
+        calls++;
         Check.due("run " + run + " call " + call + " " + what, got, want);
         return got == want;
     }
@@ -112,13 +121,13 @@ public final class ModelTest {
     private static boolean feed(int run, int call) {
         String text = text();
         boolean same = true;
-        for (int from = 0; same && from < text.length(); from += 8) {
+        for (int from = 0; same && isMore() && from < text.length(); from += 8) {
             int n = Math.min(8, text.length() - from);
             long eight = random.nextLong();
             for (int i = n - 1; i >= 0; i--) eight = eight << 8 | text.charAt(from + i) & 255;
             same = same(run, call, "feed", grid.feed(eight, n), model.feed(eight, n));
         }
-        return same && same(run, call, "read of '" + text + "'", grid.read(), model.read());
+        return same && isMore() && same(run, call, "read of '" + text + "'", grid.read(), model.read());
     }
 
     private static boolean call(int run, int call, int quiet) {
@@ -302,7 +311,7 @@ public final class ModelTest {
             }
             default:
                 if (!same(run, call, "act " + b, grid.act(a, b, x), model.act(a, b, x))) return false;
-                for (int i = 0; i < 8; i++) if (!same(run, call, "trace", grid.trace(i), model.trace(i))) return false;
+                for (int i = 0; i < 8 && isMore(); i++) if (!same(run, call, "trace", grid.trace(i), model.trace(i))) return false;
                 return true;
         }
     }

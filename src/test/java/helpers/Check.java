@@ -2,15 +2,21 @@
 final class Check {
     private static int wrong = 0;
     private static int asked = 0;
+    private static String about = "";
 
     private Check() {
+    }
+
+    /** The document's sentence that the next answers are about. */
+    static void about(String sentence) {
+        about = "[" + sentence + "] ";
     }
 
     static void due(String call, long got, long want) {
         asked++;
         if (got == want) return;
         wrong++;
-        if (wrong <= 50) System.out.println(call + " answered " + got + ", due is " + want);
+        if (wrong <= 50) System.out.println(about + call + " answered " + got + ", due is " + want);
     }
 
     static void holds(String what, boolean holds) {
@@ -35,5 +41,10 @@ final class Check {
     static int read(PenaltyGrid grid, String text) {
         feed(grid, text);
         return grid.read();
+    }
+
+    /** Lets many days go by. */
+    static void days(PenaltyGrid grid, int n) {
+        for (int left = n; left > 0; left -= 2000) grid.days(Math.min(left, 2000));
     }
 }
