@@ -5,6 +5,7 @@ public final class DayEdgeTest {
     private static PenaltyGrid g;
 
     public static void main(String[] args) {
+        constants();
         daysAreFrom0To9999();
         nowIs0AtFirst();
         daysGoBy();
@@ -38,6 +39,14 @@ public final class DayEdgeTest {
 
     private static void due(String call, long got, long want) {
         Check.due(call, got, want);
+    }
+
+    private static void constants() {
+        about("BAD (-1), FULL (-2), NONE (-3), STATE (-4)");
+        due("BAD", PenaltyGrid.BAD, BAD);
+        due("FULL", PenaltyGrid.FULL, FULL);
+        due("NONE", PenaltyGrid.NONE, NONE);
+        due("STATE", PenaltyGrid.STATE, STATE);
     }
 
     private static void daysAreFrom0To9999() {

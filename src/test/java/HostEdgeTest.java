@@ -37,6 +37,7 @@ public final class HostEdgeTest {
         youngWasItsPerson();
         traceOfTheLatestAct();
         manyWhat();
+        fiveHundredAndTwelveCalls();
         nothingIsKept();
         keptIsAllBut();
         keptThenMore();
@@ -628,6 +629,20 @@ public final class HostEdgeTest {
         g.term(0, 0, 0, 1);
         g.shelf(0, 2, 1);
         due("a drawn term parted by -1, and 1 less", g.act(0, 2, MIN), MAX);
+        begin();
+        g.person(17, 0);
+        g.deed(0, 5, 0);
+        g.deed(1, 5, 0);
+        g.term(0, 0, 0, 0);
+        for (int i = 0; i < 3; i++) read("back;back;back;back;back;");
+        g.shelf(0, 0, 0);
+        g.shelf(1, 0, 1);
+        g.shelf(2, 2, 0);
+        g.shelf(3, 3, 2);
+        due("a deed weighs", g.act(0, 0, (1 << 30) - 1), MIN + 3);
+        due("a young deed bars", g.act(1, 1, 1 << 30), MAX - 4);
+        due("a term bars", g.act(2, 1, (1 << 30) - 1), MIN + 28);
+        due("a law tells", g.act(3, 3, (1 << 30) - 1), MIN + 10);
     }
 
     private static void partedBy0() {
@@ -726,6 +741,17 @@ public final class HostEdgeTest {
         int[] want = {4, 7, 3, 4, 5, 4, 3, 6, 3, 8, 3};
         for (int what = 0; what <= 10; what++) due("many " + what, g.many(what), want[what]);
         for (int what : wrong) due("many " + what, g.many(what), BAD);
+    }
+
+    private static void fiveHundredAndTwelveCalls() {
+        about("An object is used for at most 512 calls after it has been made");
+        for (int call = 2; call <= 256; call++) due("call " + call, g.days(1), call - 1);
+        g.deed(0, 2, 255);
+        g.term(0, 1, 3, 1);
+        for (int call = 259; call <= 509; call++) due("call " + call, g.release(0, 255), 345);
+        due("call 510", g.finding(0, 7, true), 0);
+        due("call 511", g.deedOf(0, 255, 3), 7);
+        due("call 512", g.days(2000), 2255);
     }
 
     private static void nothingIsKept() {

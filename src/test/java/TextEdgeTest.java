@@ -359,6 +359,11 @@ public final class TextEdgeTest {
         due("26 times 999 on either side", g.grave(0, 1, 0), 1);
         due("read", read("up 1 if " + "999" + "+999".repeat(25) + "=" + "999" + "+999".repeat(24) + "+998;"), 2);
         due("1 less on one side", g.grave(0, 2, 0), 0);
+        for (int v = 3; v < 6; v++) {
+            due("a long one with a fault", read("up 1 if " + nines + ">999"), -100 - (8 + nines.length() + 4));
+            due("read", read("up 1 if " + nines + ">999;"), v);
+            due("one more of 51 times 999", g.grave(0, v, 0), 1);
+        }
     }
 
     private static void threeDigits() {
