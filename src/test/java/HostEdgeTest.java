@@ -40,6 +40,7 @@ public final class HostEdgeTest {
         fiveHundredAndTwelveCalls();
         nothingIsKept();
         keptIsAllBut();
+        keptOfSeveral();
         keptThenMore();
         keptStays();
         Check.end();
@@ -835,6 +836,54 @@ public final class HostEdgeTest {
         due("not behind now", g.deed(0, 0, 51), BAD);
         due("a finding", g.finding(1, 1, false), 1);
         due("an appeal", g.appeal(0), 1);
+    }
+
+    private static void keptOfSeveral() {
+        about("All but THE TAPE .. is kept: of several PERSONS, DEEDS, FINDINGS, VERSIONS, TERMS, times HELD each its own");
+        Twins.Story several = HostEdgeTest::several;
+        Twins.unchanged("again", several, PenaltyGrid::again, 1);
+        Twins.unchanged("again, twice", several, g -> g.again() * g.again(), 1);
+        Twins.unchanged("keep", several, PenaltyGrid::keep, 1);
+        Twins.unchanged("again behind more", several, HostEdgeTest::moreThenAgain, 1);
+        Twins.unchanged("again behind more, twice", several, g -> moreThenAgain(g) * moreThenAgain(g), 1);
+    }
+
+    /** Nothing of one is as that of another, and nothing is 0: so none can stand for another. Now is kept. */
+    private static void several(PenaltyGrid g) {
+        for (int i = 0; i < 4; i++) g.person(15 + 2 * i, 90 + i);
+        for (int i = 0; i < 3; i++) Check.read(g, "points 1 " + (i + 1) + ";range " + i + " 0 " + i + " to 99;" + "back;".repeat(i));
+        g.days(9);
+        for (int i = 0; i < 6; i++) g.deed(3 - i % 4, 1 + i % 5, 3 + i);
+        for (int i = 0; i < 7; i++) g.finding(6 - i < 6 ? 6 - i : 0, 15 - i, i % 2 == 0);
+        for (int i = 0; i < 6; i++) g.term(i, 4 - i % 2, 7 + i, 1 + 10 * (i % 4));
+        g.days(11);
+        Check.read(g, "points 1 4;beside if gave;");
+        for (int i = 0; i < 4; i++) {
+            g.held(3 - i, 1 + i, 3 + 2 * i);
+            g.good(i, 5 + i);
+        }
+        g.appeal(4);
+        g.appeal(2);
+        g.prove(1);
+        g.keep();
+    }
+
+    private static long moreThenAgain(PenaltyGrid g) {
+        g.days(30);
+        g.person(70, 7);
+        g.deed(4, 5, 50);
+        g.deed(0, 0, 1);
+        g.finding(0, 0, false);
+        g.finding(6, 1, true);
+        Check.read(g, "points 1 9;back;");
+        g.appeal(0);
+        g.term(0, 1, 200, 0);
+        g.term(6, 2, 100, 1);
+        g.term(2, 3, 9, 1);
+        g.held(0, 20, 50);
+        g.held(4, 0, 9);
+        for (int person = 0; person < 5; person++) g.good(person, 60 + person);
+        return g.again();
     }
 
     private static void keptThenMore() {

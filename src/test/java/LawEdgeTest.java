@@ -23,6 +23,7 @@ public final class LawEdgeTest {
         youngBelow18();
         ageOnTheDeedsDay();
         comparisons();
+        eachOneIsTakenAlike();
         graveAtLeast0AtMost4();
         rangeOfTheLatestLine();
         rangeOfAGraveAndOften();
@@ -433,6 +434,37 @@ public final class LawEdgeTest {
         String[] notHolding = {"1=1 and 1=2", "1=2 and 1=1", "1=2 or 1=2", "not 1=1", "not not not 1=1", "not 1=2 and 1=2", "(1=1 or 1=1) and 1=2",
             "1=2 and (1=2 or 1=1)", "not (1=1 or 1=2)", "1=1 and (1=1 and (1=1 and (1=1 and 1=2)))"};
         for (String cond : notHolding) condIs(cond, 0);
+    }
+
+    private static void eachOneIsTakenAlike() {
+        about("COND: ALL { or ALL }, ALL: ONE { and ONE }, ONE: { not }, of each sort of ONE");
+        String[] holding = {"weapon", "helped", "pleaded", "kind<4", "kind=3", "kind>2", "(weapon)", "not hurt", "not kind>3"};
+        String[] notHolding = {"hurt", "gave", "young", "kind<3", "kind=4", "kind>3", "(gave)", "not weapon", "not kind>2"};
+        for (String yes : holding) {
+            gravesAre(1, yes, "not not " + yes, yes + " or young", "young or " + yes);
+            gravesAre(0, "not " + yes, yes + " and young", "young and " + yes, "not (" + yes + ")");
+            for (String other : holding) gravesAre(1, yes + " and " + other, yes + " or " + other, "(" + yes + ") and (" + other + ")");
+            for (String no : notHolding) {
+                gravesAre(1, yes + " or " + no, no + " or " + yes, "not (" + yes + " and " + no + ")", "not " + no + " and " + yes);
+                gravesAre(0, yes + " and " + no, no + " and " + yes, "not (" + yes + " or " + no + ")", "not " + yes + " or " + no);
+            }
+        }
+        for (String no : notHolding) {
+            gravesAre(0, no, "not not " + no, no + " and weapon", "weapon and " + no);
+            gravesAre(1, "not " + no, no + " or weapon", "weapon or " + no, "not (" + no + ")");
+            for (String other : notHolding) gravesAre(0, no + " or " + other, no + " and " + other, "(" + no + ") or (" + other + ")");
+        }
+    }
+
+    /** The GRAVE of a DEED of KIND 3 with a weapon, that helped, and was pleaded, by a LAW with one LINE. */
+    private static void gravesAre(int want, String... conds) {
+        for (String cond : conds) {
+            begin();
+            g.deed(0, 3, 0);
+            g.finding(0, 5, true);
+            due("read of up 1 if " + cond, read("up 1 if " + cond + ";"), 0);
+            due("grave: up 1 if " + cond, g.grave(0, 0, 0), want);
+        }
     }
 
     private static void condIs(String cond, int want) {

@@ -106,7 +106,7 @@ public final class RefusalTest {
     private static void refused(Twins.Story story, String name, Ints call, int want, int... a) {
         StringBuilder told = new StringBuilder(name);
         for (int n : a) told.append(' ').append(n);
-        Twins.refused(told.toString(), story, g -> call.on(g, a), want);
+        Twins.unchanged(told.toString(), story, g -> call.on(g, a), want);
     }
 
     /** Each of the numbers in turn becomes each of its wrong values, the others stay right. */
@@ -294,20 +294,20 @@ public final class RefusalTest {
             some(g);
             if (g.read() != -111) Check.due("read of a text that ends too early", 0, -111);
         };
-        Twins.refused("nothing", someWithoutTape, g -> 0, 0);
+        Twins.unchanged("nothing", someWithoutTape, g -> 0, 0);
         for (int i = 0; i < texts.length; i++) {
             String text = texts[i];
-            Twins.refused("read '" + text + "'", someWithoutTape, g -> Check.read(g, text), -100 - places[i]);
+            Twins.unchanged("read '" + text + "'", someWithoutTape, g -> Check.read(g, text), -100 - places[i]);
         }
         Twins.Story allWithoutTape = g -> {
             all(g);
             if (g.read() != FULL) Check.due("read of a seventh", 0, FULL);
         };
-        Twins.refused("read of a seventh", allWithoutTape, g -> Check.read(g, "grave 0 1;"), FULL);
-        Twins.refused("read of a seventh, empty", allWithoutTape, g -> g.read(), FULL);
+        Twins.unchanged("read of a seventh", allWithoutTape, g -> Check.read(g, "grave 0 1;"), FULL);
+        Twins.unchanged("read of a seventh, empty", allWithoutTape, g -> g.read(), FULL);
         for (int i = 0; i < texts.length; i++) {
             String text = texts[i];
-            Twins.refused("read of a seventh '" + text + "'", allWithoutTape, g -> Check.read(g, text), -100 - places[i]);
+            Twins.unchanged("read of a seventh '" + text + "'", allWithoutTape, g -> Check.read(g, text), -100 - places[i]);
         }
     }
 }

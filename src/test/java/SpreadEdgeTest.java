@@ -16,6 +16,7 @@ public final class SpreadEdgeTest {
         likeArguments();
         likeSums();
         likePoints();
+        likeAsKnownAtK();
         likeTheLeast();
         Check.end();
     }
@@ -389,6 +390,43 @@ public final class SpreadEdgeTest {
         read("points 0 0;back;");
         due("judged by one that looks back", g.like(1, 3), 2);
         due("judged on the day ahead", g.like(1, 2), 3);
+    }
+
+    private static void likeAsKnownAtK() {
+        about("LIKE a DEED, as KNOWN at k: the FACTS of both");
+        for (int i = 0; i < 3; i++) g.deed(0, 0, 0);
+        g.finding(0, 1, false);
+        g.finding(1, 1, false);
+        g.finding(2, 14, false);
+        g.term(1, 0, 0, 0);
+        g.term(2, 0, 0, 0);
+        g.days(5);
+        g.finding(0, 14, false);
+        g.days(5);
+        g.finding(1, 14, false);
+        g.days(5);
+        g.finding(1, 1, true);
+        int[] facts = {0, 1, 4, 1, 5, 2, 9, 2, 10, 1, 14, 1, 15, 2, 9999, 2};
+        for (int i = 0; i < facts.length; i += 2) due("as known at " + facts[i], g.like(0, facts[i]), facts[i + 1]);
+        about("LIKE a DEED, as KNOWN at k: POINTS of both");
+        g.person(20, 0);
+        g.person(20, 0);
+        read("points 5 9;");
+        g.deed(0, 5, 0);
+        g.deed(2, 5, 0);
+        g.term(0, 0, 0, 0);
+        g.term(1, 0, 0, 0);
+        g.days(1);
+        for (int person = 0; person < 3; person++) g.deed(person, 0, 1);
+        g.finding(3, 1, false);
+        g.term(3, 0, 0, 0);
+        g.term(4, 0, 0, 0);
+        g.days(9);
+        g.appeal(0);
+        g.days(10);
+        g.appeal(1);
+        int[] points = {1, 4, 9, 4, 10, 3, 19, 3, 20, 4, 9999, 4};
+        for (int i = 0; i < points.length; i += 2) due("as known at " + points[i], g.like(2, points[i]), points[i + 1]);
     }
 
     private static void likeTheLeast() {

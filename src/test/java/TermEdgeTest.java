@@ -32,9 +32,11 @@ public final class TermEdgeTest {
         creditWithoutATerm();
         goodDays();
         releaseLessCreditAndGood();
+        releaseOfOnesOwn();
         releaseWithoutTerms();
         bedsOnADay();
         bedsOfEightPersons();
+        bedsAsKnownAtK();
         rowsOfAPerson();
         sixteenRows();
         cells();
@@ -608,6 +610,30 @@ public final class TermEdgeTest {
         due("as known ahead, 90 less 41", g.release(0, 49), 49);
     }
 
+    private static void releaseOfOnesOwn() {
+        about("RELEASE: not ahead of the DAY on which the latest of them was passed: of the PERSON's own TERMS");
+        g.person(20, 0);
+        int[] persons = {1, 0, 1};
+        for (int person : persons) g.deed(person, 0, 0);
+        g.term(0, 0, 1, 0);
+        g.days(10);
+        g.term(1, 0, 1, 0);
+        g.days(10);
+        g.term(2, 0, 1, 0);
+        due("40", g.release(0, 20), 40);
+        due("60", g.release(1, 20), 60);
+        g.good(0, 99);
+        due("40 less 99", g.release(0, 20), 10);
+        due("60, the other's days are not its own", g.release(1, 20), 60);
+        g.good(1, 99);
+        due("60 less 99", g.release(1, 20), 20);
+        due("as known ahead, 30 less 99", g.release(1, 19), 0);
+        due("as known ahead, 40 less 99", g.release(0, 19), 10);
+        due("as known ahead of its only one", g.release(0, 9), NONE);
+        g.appeal(2);
+        due("its latest is unwound", g.release(1, 20), 0);
+    }
+
     private static void releaseWithoutTerms() {
         about("RELEASE: None without such TERMS. BAD; NONE");
         deeds(1);
@@ -666,6 +692,24 @@ public final class TermEdgeTest {
         }
         for (int i = 0; i <= 8; i++) due("beds on day " + 60 * i, g.beds(60 * i, 0), 8 - i);
         due("beds on the day ahead of the last", g.beds(479, 0), 1);
+    }
+
+    private static void bedsAsKnownAtK() {
+        about("BEDS on a DAY, as KNOWN at k: the first TERM and RELEASE as KNOWN then");
+        deeds(1);
+        g.term(0, 0, 10, 0);
+        g.days(50);
+        g.appeal(0);
+        g.term(0, 0, 1, 0);
+        g.days(20);
+        g.appeal(1);
+        g.term(0, 0, 10, 0);
+        g.days(10);
+        int[][] fromTo = {{0, 0, 300}, {49, 0, 300}, {50, 50, 80}, {69, 50, 80}, {70, 70, 370}, {80, 70, 370}, {9999, 70, 370}};
+        for (int[] known : fromTo) {
+            int[] days = {0, 10, 49, 50, 60, 69, 70, 79, 80, 100, 299, 300, 369, 370, 9999};
+            for (int day : days) due("beds on " + day + " as known at " + known[0], g.beds(day, known[0]), day >= known[1] && day < known[2] ? 1 : 0);
+        }
     }
 
     private static void rowsOfAPerson() {

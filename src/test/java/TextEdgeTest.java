@@ -31,6 +31,7 @@ public final class TextEdgeTest {
         threeDigits();
         rowsGoAsLongAsTheyGo();
         lettersAndDigits();
+        wordsAlmostRight();
         blanks();
         fourOpen();
         sixVersions();
@@ -432,6 +433,35 @@ public final class TextEdgeTest {
         fault("5;", 0);
         right("old 89;");
         right("old 10;");
+    }
+
+    /** Each word where it is right, but with a part of it alone, a letter too many or another one. */
+    private static void wordsAlmostRight() {
+        about("WORDS are rows of letters a to z: the whole of them");
+        String[][] places = {{"", "grave", " 0 1;"}, {"", "points", " 0 1;"}, {"", "old", " 1;"}, {"", "range", " 0 0 1 to 2;"},
+            {"range 0 0 1 ", "to", " 2;"}, {"", "up", " 1 if young;"}, {"", "down", " 1 if young;"}, {"up 1 ", "if", " young;"},
+            {"", "beside", " if young;"}, {"", "back", ";"}, {"up 1 if ", "weapon", ";"}, {"up 1 if ", "hurt", ";"},
+            {"up 1 if ", "helped", ";"}, {"up 1 if ", "gave", ";"}, {"up 1 if ", "young", ";"}, {"up 1 if ", "pleaded", ";"},
+            {"up 1 if ", "points", "<1;"}, {"up 1 if ", "kind", "<1;"}, {"up 1 if 1<", "age", ";"}, {"up 1 if ", "not", " gave;"},
+            {"up 1 if young ", "and", " gave;"}, {"up 1 if young ", "or", " gave;"}};
+        for (String[] place : places) {
+            String word = place[1];
+            right(place[0] + word + place[2]);
+            for (int i = 1; i < word.length(); i++) {
+                almost(place, word.substring(i));
+                almost(place, word.substring(0, i));
+            }
+            for (int i = 0; i < word.length(); i++) {
+                almost(place, word.substring(0, i) + word.substring(i + 1));
+                almost(place, word.substring(0, i + 1) + word.substring(i));
+                almost(place, word.substring(0, i) + "j" + word.substring(i + 1));
+            }
+            almost(place, word + word);
+        }
+    }
+
+    private static void almost(String[] place, String word) {
+        fault(place[0] + word + place[2], place[0].length());
     }
 
     private static void blanks() {

@@ -4,7 +4,7 @@ import java.util.List;
 import java.util.Map;
 
 /**
- * Makes two objects by the same calls, asks one of them what it has to refuse, and then asks both all that can be
+ * Makes two objects by the same calls, asks one of them what has to change nothing, and then asks both all that can be
  * asked: they have to answer alike. What changes an object is asked of twins of its own, and no object is asked more
  * than 512 times.
  */
@@ -37,8 +37,8 @@ final class Twins {
         SETS.add(ofWhatIsFree());
     }
 
-    /** The call is refused with what is due, and nothing else changes. */
-    static void refused(String name, Story story, Call call, long want) {
+    /** The call answers what is due, and all that can be asked behind it is as it was. */
+    static void unchanged(String name, Story story, Call call, long want) {
         List<long[]> told = TOLD.computeIfAbsent(story, Twins::answers);
         for (int set = 0; set < SETS.size(); set++) {
             PenaltyGrid g = new PenaltyGrid();
